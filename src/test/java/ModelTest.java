@@ -139,7 +139,7 @@ public final class ModelTest {
             case 16: call("holder"); break;
             case 17: call("slowest"); break;
             case 18: call("wouldFree", consumer); break;
-            default: call("message", near(0, 3), near(0, 2)); break;
+            default: call("message", near(0, random.nextInt(3)), near(0, 2)); break;
         }
     }
 
@@ -233,6 +233,16 @@ public final class ModelTest {
         put(";");
     }
 
+    /** Some runs come near to the last number, where most operations are refused. */
+    private void crowd() {
+        for (int n = 0; n < 4 && model.state(0) < 360 + random.nextInt(45); n++) {
+            text.setLength(0);
+            text.append("repeat 50(").append(random.nextBoolean() ? "send 1 2 3;" : "").append("send 0 1 ").append(random.nextInt(21));
+            text.append(";write ").append(random.nextInt(8)).append(" 0 7;").append(random.nextInt(3) == 0 ? "flush;" : "").append(");");
+            submit();
+        }
+    }
+
     private void script() {
         text.setLength(0);
         if (random.nextInt(6) == 0) {
@@ -244,6 +254,10 @@ public final class ModelTest {
         }
         if (random.nextInt(12) == 0) text.setLength(random.nextInt(text.length() + 1));
         if (text.length() > 900) text.setLength(900);
+        submit();
+    }
+
+    private void submit() {
         int length = text.length();
         while (text.length() % 20 != 0) text.append(' ');
         for (int i = 0; i < text.length(); i += 20) {
@@ -273,6 +287,8 @@ public final class ModelTest {
     private boolean run() {
         if (random.nextInt(4) > 0) configure();
         boolean scripted = random.nextInt(3) == 0;
+        for (int n = random.nextInt(4); n > 0; n--) call("join", topic());
+        if (random.nextInt(5) == 0) crowd();
         for (int n = 0; n < 2000 && calls < CALLS && !wrong; n++) {
             int dice = random.nextInt(100);
             if (dice < 55) operate();
@@ -288,7 +304,7 @@ public final class ModelTest {
 
     public static void main(String[] args) {
         long from = args.length > 0 ? Long.parseLong(args[0]) : 0;
-        long to = args.length > 1 ? Long.parseLong(args[1]) : 150;
+        long to = args.length > 1 ? Long.parseLong(args[1]) : 300;
         boolean tell = args.length > 2;
         Map<String, Integer> answers = new java.util.TreeMap<>();
         for (long seed = from; seed < to; seed++) {

@@ -87,6 +87,12 @@ public final class PromiseTest {
         check.due("spilled", y.state(9), 0);
         y.begin();
         check.due("spilled beyond the limit", y.state(9), 10);
+        SharedLog w = new SharedLog();
+        w.join(0);
+        for (int i = 0; i < 9; i++) w.send(0, i, 20, NONE);
+        w.send(0, 9, 13, NONE);
+        check.due("bytes beyond", w.state(3), 301);
+        check.due("spilled at 301", w.state(9), 10);
         // room for 20 messages: a 21st is never spilled
         SharedLog z = new SharedLog();
         z.join(0);
@@ -996,6 +1002,7 @@ public final class PromiseTest {
         check.due("the lowest is spilled", w.consumer(0, 3), 1);
         check.due("the other is not", w.consumer(1, 3), 0);
         check.due("its hold", w.consumer(1, 4), 2);
+        spillingOfMany();
         // a read of nothing trims, too
         SharedLog v = made(40, 9999, 0);
         v.join(3);
@@ -1008,6 +1015,47 @@ public final class PromiseTest {
         check.due("before", v.state(2), 0);
         v.read(0, 1);
         check.due("after", v.state(2), 4);
+    }
+
+    private static void spillingOfMany() {
+        // one operation may spill for all six consumers
+        SharedLog x = made(400, 60, 100);
+        for (int c = 0; c < 6; c++) x.join(0);
+        check.due("nothing yet", x.state(9), 0);
+        x.send(0, 0, 20, NONE);
+        check.due("bytes", x.state(3), 48 + 30);
+        for (int c = 0; c < 6; c++) check.due("spilled of " + c, x.consumer(c, 3), 1);
+        // the trimming after a spill heeds the holds of the consumers that are left
+        SharedLog y = made(40, 100, 1);
+        y.join(0);
+        y.join(1);
+        y.checkpoint();
+        y.send(1, 0, 20, NONE);
+        y.send(0, 0, 20, NONE);
+        y.send(0, 0, 20, NONE);
+        y.flush();
+        check.due("at first", y.state(2), 3);
+        y.send(2, 0, 20, NONE);
+        check.due("the least hold is spilled", y.consumer(1, 3), 1);
+        check.due("the other's messages stay", y.state(2), 4);
+        check.due("not spilled", y.consumer(0, 3), 0);
+        // each record in a segment of its own
+        SharedLog z = made(40, 9999, 0);
+        z.begin();
+        while (z.state(0) < 400) z.send(0, 0, 20, 0);
+        check.due("segments", z.segments(), 399);
+        check.due("last number", z.segment(398, 0), 398);
+        check.due("last first", z.segment(398, 1), 399);
+        check.due("last bytes", z.segment(398, 3), 30);
+        SharedLog w = made(40, 9999, 0);
+        w.send(0, 0, 20, NONE);
+        for (int i = 0; i < 399; i++) w.send(0, 0, 20, NONE);
+        check.due("segments of one record", w.segments(), 400);
+        check.due("the last one's first", w.segment(399, 1), 399);
+        check.due("the last one's bytes", w.segment(399, 3), 30);
+        check.due("bytes of all", w.state(3), 12000);
+        check.due("flush", w.flush(), 400);
+        check.due("all but the open one are trimmed", w.state(5), 399);
     }
 
     public static void main(String[] args) {

@@ -74,6 +74,9 @@ public final class ScriptTest {
         error("flushx;", 1, 0);
         error("flus;", 1, 0);
         error("flushflush;", 1, 0);
+        error("zlush;", 1, 0);
+        error("flusz;", 1, 0);
+        error("xegin;", 1, 0);
         error("checkpoint;", 1, 0);
         error("next;", 1, 0);
         error("in 1;", 1, 0);
@@ -173,6 +176,8 @@ public final class ScriptTest {
         runs(times(60, "flush;"), 60);
         runs("begin;begin;begin;begin;abort 0;", 5);
         runs("repeat 50();", 1);
+        runs("when 1" + times(440, "+1") + "=441(flush;);" , 2);
+        error("when " + times(447, "1+") + "=", 1, 899);
         runs("repeat 0(flush;);", 1);
         runs("repeat 00050 (flush;);", 51);
     }
