@@ -17,23 +17,29 @@ import java.util.regex.Pattern;
 public final class FaceTest {
     private static final Check check = new Check();
 
-    private static final String[] METHODS = {
-        "int append int int int int int", "int truncate int", "int run", "int errorCode", "int errorPosition", "int failure",
-        "int failurePosition", "int configure int int int", "int begin", "int commit int", "int abort int",
-        "int write int int int int", "int remove int int", "int copy int int int", "int send int int int int", "int join int",
-        "int read int int", "int message int int", "int flush", "int checkpoint", "int damage int", "int crash int",
-        "int state int", "int record int int", "int segments", "int segment int int", "float fill int", "int order int int",
-        "int transaction int int", "int block int int", "int blockAt int int int", "int visibleAt int int",
-        "int positionAt int int", "int visible int int", "int consumer int int", "float lag int", "int holder", "int slowest",
-        "int wouldFree int"};
-
-    private static String shape(Method m) {
-        StringBuilder text = new StringBuilder(m.getReturnType() + " " + m.getName());
-        for (Class<?> p : m.getParameterTypes()) text.append(' ').append(p);
-        return text.toString();
+    /** The face as the document's first block of code tells it, without the names of parameters. */
+    private static TreeSet<String> documented() throws IOException {
+        String document = Files.readString(Path.of("../shared/DOC.md"), StandardCharsets.UTF_8);
+        TreeSet<String> shapes = new TreeSet<>();
+        Matcher method = Pattern.compile("public (int|float) (\\w+)\\(([^)]*)\\)( throws [^;]*)?;").matcher(document);
+        while (method.find()) {
+            String parameters = method.group(3).replaceAll("\\w+ \\w+", "int");
+            check.due("parameters of " + method.group(2), method.group(3).matches("(int \\w+(, )?)*"), true);
+            shapes.add(method.group(1) + " " + method.group(2) + "(" + parameters + ")" + (method.group(4) == null ? "" : method.group(4)));
+        }
+        return shapes;
     }
 
-    private static void face() {
+    private static String shape(Method m) {
+        List<String> parameters = new ArrayList<>();
+        for (Class<?> p : m.getParameterTypes()) parameters.add(p.getName());
+        List<String> exceptions = new ArrayList<>();
+        for (Class<?> e : m.getExceptionTypes()) exceptions.add(e.getSimpleName());
+        String head = m.getReturnType() + " " + m.getName() + "(" + String.join(", ", parameters) + ")";
+        return exceptions.isEmpty() ? head : head + " throws " + String.join(", ", exceptions);
+    }
+
+    private static void face() throws IOException {
         check.part("rule 1");
         check.due("modifiers", SharedLog.class.getModifiers(), Modifier.PUBLIC | Modifier.FINAL);
         check.due("NONE", SharedLog.NONE, -1);
@@ -45,7 +51,7 @@ public final class FaceTest {
             open.add(shape(m));
             names.add(m.getName());
         }
-        check.due("methods", new TreeSet<>(open), new TreeSet<>(Arrays.asList(METHODS)));
+        check.due("methods", new TreeSet<>(open), documented());
         check.due("number of methods", open.size(), 39);
         for (Field f : SharedLog.class.getDeclaredFields()) {
             boolean known = f.getName().equals("NONE") || Modifier.isPrivate(f.getModifiers());
@@ -94,8 +100,14 @@ public final class FaceTest {
         Matcher imports = Pattern.compile("import ([\\w.]+);").matcher(code);
         while (imports.find()) check.due("import", imports.group(1), "java.util.NoSuchElementException");
         Matcher thrown = Pattern.compile("throw new (\\w+)\\(").matcher(code);
-        List<String> allowed = Arrays.asList("IllegalStateException", "IllegalArgumentException", "IndexOutOfBoundsException", "NoSuchElementException");
-        while (thrown.find()) check.due(thrown.group(1) + " may be thrown", allowed.contains(thrown.group(1)), true);
+        List<String> names = Arrays.asList("IllegalStateException", "IllegalArgumentException", "IndexOutOfBoundsException", "NoSuchElementException");
+        while (thrown.find()) check.due(thrown.group(1) + " may be thrown", names.contains(thrown.group(1)), true);
+        // no call makes an object: what a run needs is made with the log, or is thrown
+        Matcher made = Pattern.compile("(?m)^(.*)\\bnew\\b").matcher(code);
+        while (made.find()) {
+            boolean allowed = made.group(1).matches("\\s*(throw |private final \\S+ \\w+ = |cells = )");
+            check.due("a new object at " + made.group(1).trim() + " is a part or is thrown", allowed, true);
+        }
         methodLengths(code);
     }
 

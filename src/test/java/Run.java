@@ -27,6 +27,10 @@ final class Run {
         return new ArrayList<>(done);
     }
 
+    int buffered() {
+        return buffered;
+    }
+
     private void obey(String row) {
         if (row.startsWith("say ")) {
             say(row.substring(4));
