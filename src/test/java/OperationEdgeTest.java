@@ -1,4 +1,6 @@
 import java.io.IOException;
+import java.util.ArrayList;
+import java.util.List;
 
 /** Promise 1 and the operations, promises 9 to 23: the edges that their sentences name. */
 public final class OperationEdgeTest {
@@ -27,13 +29,20 @@ public final class OperationEdgeTest {
         s.part("Promise 9");
         s.quote("---- operations");
         String[] used = {"join(0) = 0", "begin() = 0", "write(1, 1, 1, 0) = 2", "send(0, 1, 1, NONE) = 3", "read(0, 1) = 1",
-            "checkpoint() = 5", "write(2, 2, 2, NONE) = 6", "damage(6) = 1", "say flush;x", "run() = NONE", "say commit 9;", "run() = 1",
-            "say x", "run() = NONE", "say flush;"};
+            "checkpoint() = 5", "write(2, 2, 2, NONE) = 6", "damage(6) = 1"};
+        String[] scripts = Rows.with(used, "say flush;x", "run() = NONE", "say commit 9;", "run() = 1", "say x", "run() = NONE", "say flush;");
         s.test("Makes everything as at first, with other settings. Only the buffer and what errorCode, errorPosition, failure and "
-            + "failurePosition tell stay.", Rows.with(used, "configure(40, 60, 1) = 7", "state(0..10) = 0", "segments() = 1",
+            + "failurePosition tell stay.", Rows.with(scripts, "configure(40, 60, 1) = 7", "state(0..10) = 0", "segments() = 1",
             "segment(0, 0..4) = 0", "transaction(0..3, 0) = 0", "block(0..7, 0..3) = NONE", "visibleAt(0, 0..3) = 0", "message(0, 0) ! index",
             "consumer(0, 0) ! index", "errorCode() = 1", "errorPosition() = 0", "failure() = 1", "failurePosition() = 0", "run() = 1",
             "join(3) = 0", "positionAt(0, 0) = NONE", "begin() = 0", "transaction(0, 1..2) = 1 0", "blockAt(2, 1..2, 1) = NONE"));
+        asAtFirst("40, 60, 1", used);
+        asAtFirst("100, 300, 20", "4 * begin() = 0..3", "6 * join(0) = 0..5", "9 * send(0, 1, 20, 3) = 10..18", "commit(3) = 9", "read(5, 3) = 3",
+            "checkpoint() = 21", "9 * write(7, 3, 5, 2) = 22..30", "commit(2) = 9", "send(0..3, 1, 20, NONE) = 32..35", "damage(35) = 1",
+            "abort(0) = 0", "flush() = 15", "write(6, 3, 5, NONE) = 37", "damage(37) = 1");
+        asAtFirst("400, 9999, 100", Rows.TO_400);
+        asAtFirst("40, 40, 0", "configure(40, 9999, 0) = 0", "9 * send(1, 0, 20, NONE) = 0..8", "flush() = 9", "join(1) = 0", "state(5) = 8",
+            "send(1, 0, 20, NONE) = 10", "crash(11) = 0");
         String segment = "- `segment`: capacity of a segment in bytes, 40 to 400";
         s.test(segment, "configure(40, 9999, 0) = 0", "4 * send(0, 0, 0, NONE) = 0..3", "segments() = 1", "begin() = 0", "segments() = 2",
             "fill(0..1) = 40/40 4/40");
@@ -61,10 +70,18 @@ public final class OperationEdgeTest {
         s.test(records, "configure(40, 40, 0) = 0", "write(0, 0, 1, NONE) = 0", "configure(40, 9999, 0) = 1", "4 * send(0, 0, 20, NONE) = 0..3",
             "flush() = 4", "state(2) = 3", "configure(40, 40, 0) = 1", "write(0, 0, 1, NONE) = 0", "crash(0) = 1", "configure(100, 300, 20) = 0");
         s.test(records, Rows.with(Rows.TO_400, "configure(40, 40, 0) = 400", "configure(40, 40, 0) = 0"));
-        s.test("Throws `IllegalArgumentException` if an argument is out of range", Rows.with(used,
+        s.test("Throws `IllegalArgumentException` if an argument is out of range", Rows.with(scripts,
             "configure(39|401|0|-1|LEAST|MOST, 40, 0) ! argument", "configure(40, 39|10000|0|-1|LEAST|MOST, 0) ! argument",
             "configure(40, 40, -1|101|LEAST|MOST) ! argument", "configure(39, 39, -1) ! argument", "configure(401, 10000, 101) ! argument",
             "configure(40|400, 40|9999, 0|100) = 7 0 0 0 0 0 0 0"));
+    }
+
+    /** After configure, a used object is like a new one with the same settings; no script has failed. */
+    private static void asAtFirst(String settings, String... rows) {
+        List<Call> used = new Run(check, rows).calls();
+        List<Call> fresh = new ArrayList<>();
+        for (List<Call> calls : List.of(used, fresh)) calls.addAll(Call.read("configure(" + settings + ")"));
+        check.due("what is not as at first", Run.firstChange(Everything.after(fresh), Everything.after(used)), "nothing");
     }
 
     private static void begin(Sentences s) {

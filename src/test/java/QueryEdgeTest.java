@@ -60,8 +60,9 @@ public final class QueryEdgeTest {
             "flush() = 5", "segments() = 2");
         s.test("Returns 1 or more.", Rows.with(TRIMMED, "segments() = 1", "write(0, 0, 0, NONE) = 6", "flush() = 1", "segments() = 1", "crash(7) = 0",
             "segments() = 1"));
-        s.test("Returns 1 or more.", "configure(40, 9999, 0) = 0", "400 * send(0, 0, 20, NONE) = 0..399", "segments() = 400", "flush() = 400",
-            "segments() = 1");
+        s.test("Returns 1 or more.", "configure(40, 9999, 0) = 0", "400 * send(0, 0, 20, NONE) = 0..399", "segments() = 400",
+            "segment(399, 0..4) = 399 399 1 30 0", "segment(398, 0..4) = 398 398 1 30 1", "record(399, 7) = 399", "segment(400, 0) ! index",
+            "flush() = 400", "segments() = 1", "segment(0, 0..4) = 399 399 1 30 0");
         s.part("Promise 27");
         s.test("Returns a number about a segment.", Rows.with(BUSY, "segments() = 3", "segment(0, 0..4) = 0 0 5 38 1", "segment(1, 0..4) = 1 5 1 30 1",
             "segment(2, 0..4) = 2 6 1 18 0"));
