@@ -122,6 +122,9 @@ final class Everything {
         for (int consumer = 0; consumer < 6; consumer++) ask("read", consumer, 50);
         askMessages();
         ask("checkpoint");
+        for (int topic = 0; topic < 4; topic++) ask("join", topic);
+        for (int topic = 0; topic < 4; topic++) ask("send", topic, 1, 20, SharedLog.NONE);
+        for (int consumer = 0; consumer < 6; consumer++) askEach("consumer", consumer, 5);
         askState();
         again();
         ask("crash", number("state", 0));
