@@ -38,9 +38,8 @@ public final class OperationEdgeTest {
             "join(3) = 0", "positionAt(0, 0) = NONE", "begin() = 0", "transaction(0, 1..2) = 1 0", "blockAt(2, 1..2, 1) = NONE"));
         asAtFirst("40, 60, 1", used);
         asAtFirst("100, 300, 20", "4 * begin() = 0..3", "6 * join(0) = 0..5", "9 * send(0, 1, 20, 3) = 10..18", "commit(3) = 9", "read(5, 3) = 3",
-            "state(9) = 0",
-            "checkpoint() = 21", "9 * write(7, 3, 5, 2) = 22..30", "commit(2) = 9", "send(0..3, 1, 20, NONE) = 32..35", "damage(35) = 1",
-            "abort(0) = 0", "flush() = 15", "write(6, 3, 5, NONE) = 37", "damage(37) = 1");
+            "state(9) = 18", "checkpoint() = 21", "9 * write(7, 3, 5, 2) = 22..30", "commit(2) = 9", "send(0..3, 1, 20, NONE) = 32..35",
+            "damage(35) = 1", "abort(0) = 0", "flush() = 15", "write(6, 3, 5, NONE) = 37", "damage(37) = 1");
         asAtFirst("400, 9999, 100", Rows.TO_400);
         asAtFirst("400, 9999, 100", "configure(400, 40, 100) = 0", "6 * join(0) = 0..5", "3 * send(0, 1, 20, NONE) = 6..8", "read(0, 1) = 1",
             "state(9) = 17", "consumer(0..5, 3) = 2 3 3 3 3 3");
