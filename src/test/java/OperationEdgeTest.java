@@ -41,6 +41,7 @@ public final class OperationEdgeTest {
             "state(9) = 18", "checkpoint() = 21", "9 * write(7, 3, 5, 2) = 22..30", "commit(2) = 9", "send(0..3, 1, 20, NONE) = 32..35",
             "damage(35) = 1", "abort(0) = 0", "flush() = 15", "write(6, 3, 5, NONE) = 37", "damage(37) = 1");
         asAtFirst("400, 9999, 100", Rows.TO_400);
+        asAtFirst("400, 9999, 100", "write(0..7, 0..3, 9, NONE) = 0..31", "join(0) = 0", "checkpoint() = 33");
         asAtFirst("400, 9999, 100", "configure(400, 40, 100) = 0", "6 * join(0) = 0..5", "3 * send(0, 1, 20, NONE) = 6..8", "read(0, 1) = 1",
             "state(9) = 17", "consumer(0..5, 3) = 2 3 3 3 3 3");
         asAtFirst("40, 40, 0", "configure(40, 9999, 0) = 0", "9 * send(1, 0, 20, NONE) = 0..8", "flush() = 9", "join(1) = 0", "state(5) = 8",

@@ -118,8 +118,26 @@ public final class ScriptEdgeTest {
         String[] others = {"in", "next", "durable", "bytes", "unread", "x", "checkpoint", "Begin", "12", "(", ")", "<", "+", "damage", "crash",
             "configure", "begi", "beginn", "fluxh", "repeatx"};
         for (String word : others) error(s, command, "flush; " + word + " 0;", 1, 7);
+        for (String word : new String[] {"begin", "commit", "abort", "write", "remove", "copy", "send", "join", "read", "flush", "mark", "repeat", "when"}) {
+            likeWords(s, command, "flush;", word, " 0 0 0;");
+        }
+        likeWords(s, "tx = \"in\" NUMBER", "remove 0 ", "in", " 0;");
+        for (String word : new String[] {"next", "durable", "bytes", "unread"}) {
+            likeWords(s, "atom = NUMBER | \"next\" | \"durable\" | \"bytes\" | \"unread\" NUMBER", "when ", word, " = 0();");
+        }
         blocks(s, command);
         sums(s);
+    }
+
+    /** A word with one letter that is another one, too many or too few is not this word. */
+    private static void likeWords(Sentences s, String sentence, String before, String word, String behind) {
+        for (int n = 0; n < word.length(); n++) {
+            error(s, sentence, before + word.substring(0, n) + "q" + word.substring(n + 1) + behind, 1, before.length());
+            error(s, sentence, before + word.substring(0, n) + word.substring(n + 1) + behind, 1, before.length());
+            error(s, sentence, before + word.substring(0, n) + "q" + word.substring(n) + behind, 1, before.length());
+        }
+        error(s, sentence, before + word + "q" + behind, 1, before.length());
+        error(s, sentence, before + word.toUpperCase() + behind, 1, before.length());
     }
 
     /** A command with this many numbers: one too few, one too many, another token among them. */

@@ -345,6 +345,13 @@ public final class SectionEdgeTest {
         s.test(cut, Rows.with(six, "damage(3) = 1", "crash(2) = 4", "state(0) = 2", "block(0, 0) = 1"));
         s.test(cut, Rows.with(six, "damage(1) = 1", "crash(6) = 5", "state(0) = 1"));
         s.test(cut, "crash(0) = 0", "state(0) = 0");
+        // nothing of a lost record comes back, neither by an operation that appends nothing nor by a new record before it
+        s.test(cut, Rows.with(six, "crash(1) = 5", "flush() = 0", "block(0, 0) = 0", "order(1, 1) ! element", "remove(7, NONE) = 1", "block(0, 0) = 0",
+            "order(2, 0..1) = 0 1", "order(2, 2) ! element", "begin() = 0", "block(0, 0) = 0", "commit(0) = 0", "block(0, 0) = 0"));
+        s.test(cut, "join(0) = 0", "2 * send(0, 1, 2, NONE) = 1 2", "begin() = 0", "write(0, 0, 5, 0) = 4", "send(0, 3, 4, 0) = 5", "commit(0) = 2",
+            "crash(1) = 6", "consumer(0, 2) = 0", "read(0, 9) = 0", "flush() = 0", "consumer(0, 2) = 0", "visibleAt(1, 0) = 0", "begin() = 0",
+            "2 * begin() = 1 2", "consumer(0, 2) = 0", "begin() = 3", "commit(0) = 0",
+            "block(0, 0) = NONE", "consumer(0, 2) = 0", "visible(0, 0) ! element");
         s.test("All open transactions end without a commit or an abort; their records that are left never become effective.",
             "4 * begin() = 0..3", "write(0, 0, 1, 0) = 4", "send(1, 0, 0, 3) = 5", "crash(6) = 0", "state(0) = 6", "state(7) = 0",
             "transaction(0..3, 0) = 0", "commit(0) ! state", "begin() = 0", "commit(0) = 0", "record(4..5, 8) = NONE", "block(0, 0) = NONE",
